@@ -591,11 +591,14 @@ public final class TwoTierStore {
             return size[k] < 1 ? 0 : SIXTIETHS * price[k] / size[k];
         }
 
-        /** Sums over all sets at once: each is the set less its least member, and that member. */
+        /** Sums over all sets at once: each ITEM comes to all the sets of those ahead of it. */
         void sumSets(int[] each, int[] sums) {
             sums[0] = 0;
-            for (int set = 1; set < 1 << count; set++) {
-                sums[set] = sums[set & set - 1] + each[Integer.numberOfTrailingZeros(set)];
+            for (int k = 0; k < count; k++) {
+                int bit = 1 << k;
+                for (int set = 0; set < bit; set++) {
+                    sums[bit + set] = sums[set] + each[k];
+                }
             }
         }
 
@@ -1189,7 +1192,7 @@ public final class TwoTierStore {
         /** One by one, DOWN ahead of UP, they can always go. */
         private int needOf(int left) {
             int need = Integer.bitCount(left);
-            for (int set = 1; set <= left; set++) {
+            for (int set = left; set > 0; set = set - 1 & left) {
                 if (canGo(set, left) && needs[left ^ set] + 1 < need) {
                     need = needs[left ^ set] + 1;
                 }
@@ -1217,6 +1220,7 @@ public final class TwoTierStore {
         private static final int MOST_TAPE = 440;
         private static final int MOST_TEXT = 400;
         private static final int MOST_LETTERS = 6;
+        private static final int LETTER_BITS = 5;
         private static final int MOST_DIGITS = 2;
         private static final int MOST_DEPTH = 2;
 
@@ -1452,59 +1456,40 @@ public final class TwoTierStore {
                 next++;
             }
             tokenAt = next;
-            value = 0;
             if (next >= length) {
                 token = AT_END;
-            } else if (isLetter(tape[next]) || isDigit(tape[next])) {
-                readRun();
-            } else {
+                return;
+            }
+            readRun();
+            if (next == tokenAt) {
                 token = isSign(tape[next]) ? tape[next] : NO_TOKEN;
                 next++;
             }
         }
 
-        /** A run is a WORD or a NUMBER as a whole or it is none, however it begins. */
+        /** A run of letters and digits is a WORD or a NUMBER as a whole or it is none; what is too long may wrap. */
         private void readRun() {
             int letters = 0;
             int digits = 0;
-            while (next < length && (isLetter(tape[next]) || isDigit(tape[next]))) {
-                letters += isLetter(tape[next]) ? 1 : 0;
-                digits += isDigit(tape[next]) ? 1 : 0;
+            value = 0;
+            while (next < length) {
+                int sign = tape[next];
+                if (sign >= 'a' && sign <= 'z') {
+                    value += sign - 'a' + 1 << LETTER_BITS * letters;
+                    letters++;
+                } else if (sign >= '0' && sign <= '9') {
+                    value = value * 10 + sign - '0';
+                    digits++;
+                } else {
+                    break;
+                }
                 next++;
             }
             if (digits == 0 && letters <= MOST_LETTERS) {
                 token = WORD;
-                value = packLetters();
-            } else if (letters == 0 && digits <= MOST_DIGITS) {
-                token = NUMBER;
-                value = addDigits();
             } else {
-                token = NO_TOKEN;
+                token = letters == 0 && digits <= MOST_DIGITS ? NUMBER : NO_TOKEN;
             }
-        }
-
-        private int packLetters() {
-            int packed = 0;
-            for (int i = next - 1; i >= tokenAt; i--) {
-                packed = packed << 5 | tape[i] - 'a' + 1;
-            }
-            return packed;
-        }
-
-        private int addDigits() {
-            int sum = 0;
-            for (int i = tokenAt; i < next; i++) {
-                sum = sum * 10 + tape[i] - '0';
-            }
-            return sum;
-        }
-
-        private static boolean isLetter(int sign) {
-            return sign >= 'a' && sign <= 'z';
-        }
-
-        private static boolean isDigit(int sign) {
-            return sign >= '0' && sign <= '9';
         }
 
         private static boolean isSign(int sign) {
