@@ -614,7 +614,7 @@ public final class TwoTierStore {
     /** What one REQUEST or one move by hand did: its ENTRIES, ahead of any BOOK. */
     private static final class Deeds {
         /** A RENT, all but one ITEM DOWN, one UP are the most that one REQUEST does. */
-        static final int MOST = MOST_ITEMS + 2;
+        static final int MOST = MOST_ITEMS + 1;
         int count;
         final int[] kind = new int[MOST];
         final int[] item = new int[MOST];
@@ -1062,7 +1062,6 @@ public final class TwoTierStore {
             }
             cost[0] = 0;
             rows = 0;
-            traced = NONE;
         }
 
         /** Any go DOWN, then any UP: for one ITEM after the other, which comes to the same. */

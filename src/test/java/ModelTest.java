@@ -2,7 +2,7 @@ import java.util.Random;
 
 /** Long runs of drawn calls, on the class and on the model: every answer must be the same. */
 public final class ModelTest {
-    private static final int RUNS = 400;
+    private static final int RUNS = 800;
     private static final int CALLS = 512;
     private static final String[] WORDS = {"a", "b", "cc", "bread", "milk", "once", "heat", "zzzzzz", "d", "e", "f"};
 

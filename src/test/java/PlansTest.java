@@ -73,6 +73,19 @@ public final class PlansTest {
         x.request(0);
         Check.due("best() of one more", x.best(), 21);
         Check.row("its sets", plans(x, 1), "1 2 4 0 1");
+        x.undo();
+        x.request(1);
+        Check.due("best() of another", x.best(), 17);
+        Check.row("its sets", plans(x, 1), "1 2 4 0 2");
+        x.image(0);
+        x.room(2);
+        Check.names(x, "a;");
+        Check.row("by ROOM 2", x.best() + " " + plans(x, 1), "6 1");
+        x.rule(1);
+        Check.names(x, "a;bo;");
+        Check.row("by rent", x.best() + " " + plans(x, 1), "2 0 0");
+        x.restore(0);
+        Check.row("as kept", x.best() + " " + plans(x, 1), "17 1 2 4 0 2");
     }
 
     private static void promise18Rent() {
@@ -105,7 +118,10 @@ public final class PlansTest {
         Check.due("as it was behind it", x.potential(1), 600);
         TwoTierStore y = asked("room 3;item a 1 2 1;", "a;a;a;a;");
         // a goes UP in REQUEST 1, the plan has it from the first on
-        Check.row("its sets", plans(y, 1), "1 1 1 1");
+        Check.due("potential(0), asked for first", y.potential(0), 360);
+        y.request(0);
+        Check.due("proof(0), asked for first", y.proof(0), -60);
+        Check.row("its sets", plans(y, 1), "1 1 1 1 1");
         Check.due("a plan's ITEM on SLOW", y.potential(0), 360);
         Check.due("behind UP", y.potential(1), 240);
         Check.due("proof(0)", y.proof(0), 60 * 3 * 2 - 60 - 360);
@@ -202,6 +218,8 @@ public final class PlansTest {
         x.carry(0, 1);
         x.request(0);
         Check.due("nothing PAID in the LOG", x.ratio(), 0);
+        TwoTierStore one = asked("item a 1 1 1;", "a;");
+        Check.due("BEST of 1", one.ratio(), Float.floatToIntBits(2f));
         for (int seed = 0; seed < 40; seed++) {
             TwoTierStore y = Check.made("room 5;item a 2 7 3;item b 3 5 2;item c 4 11 3;");
             int paid = y.drawn(5 + seed % 36, seed);

@@ -152,6 +152,16 @@ public final class RequestsTest {
         Check.due("FAST", x.now(3), 11);
         x.request(4);
         Check.row("all go", items(x, 3), "0 0 0 0 10");
+        TwoTierStore y = Check.made("room 7;item a 1 1 1;item b 1 2 2;item c 1 3 3;item d 1 4 4;item e 1 5 5;item f 1 6 6;item g 1 7 7;item h 6 8 8;");
+        Check.names(y, "a;b;c;d;e;f;g;");
+        y.carry(0, 0);
+        y.carry(1, 0);
+        y.carry(1, 1);
+        y.carry(0, 1);
+        y.book(0, 0, 30);
+        Check.due("six make way", y.request(7), 16);
+        Check.row("ENTRIES", Check.lines(y, 0), "1,7,8 2,0,1 2,1,1 2,2,1 2,3,1 2,4,1 2,5,1 3,7,8");
+        Check.row("GATES", Check.gates(y), "1234".repeat(7));
     }
 
     private static void promise8Edges() {
@@ -249,6 +259,17 @@ public final class RequestsTest {
         Check.due("gate(0) ahead of any", x.gate(0), NONE);
         Check.names(x, "a;bo;");
         Check.row("both UP", Check.gates(x), "12341234");
+        Check.store(x, ONCE);
+        x.carry(2, 0);
+        Check.names(x, "a;bo;");
+        Check.row("those of names() alone", Check.gates(x), "12341234");
+        x.rule(1);
+        x.rule(0);
+        x.carry(2, 0);
+        x.drawn(1, 1);
+        Check.row("those of drawn() alone", Check.gates(x), "1234");
+        Check.store(x, ONCE);
+        Check.names(x, "a;bo;");
         x.request(0);
         x.request(3);
         x.carry(9, 1);
@@ -289,6 +310,11 @@ public final class RequestsTest {
         x.request(0);
         x.book(2, 7, 1);
         Check.row("it stays", Check.booked(x, 2), "1 0 0 6 3 30");
+        x.book(2, 2, 1);
+        x.request(1);
+        x.request(1);
+        x.request(2);
+        Check.row("full", Check.booked(x, 2), "1 0 4 2 2 1");
         x.book(2, 2, 5);
         Check.row("opened anew", Check.booked(x, 2), "0 0 0 0 2 5");
         Check.due("opened anew", x.line(2, 0, 0), NONE);

@@ -9,6 +9,7 @@ public final class ShiftsTest {
         promise33();
         promise34();
         promise36();
+        promise36All();
         promise36Kinds();
         promise36Eight();
         promises37and38();
@@ -32,6 +33,7 @@ public final class ShiftsTest {
         Check.due("LIMIT 0", x.rides(0, 0), NONE);
         Check.due("LIMIT 41", x.rides(0, 41), NONE);
         Check.due("a SIZE above the LIMIT", x.rides(4, 3), NONE);
+        Check.due("a SIZE above the LIMIT", x.rides(1, 1), NONE);
         Check.row("the latest that was not NONE", Check.rides(x), "2 9");
         Check.due("ride(2)", x.ride(2), NONE);
         Check.due("ride(-1)", x.ride(-1), NONE);
@@ -147,6 +149,32 @@ public final class ShiftsTest {
         x.request(0);
         x.undo();
         Check.due("the tape stays", x.now(7), 20);
+    }
+
+    private static void promise36All() {
+        TwoTierStore x = Check.made(FOUR);
+        x.book(0, 0, 3);
+        x.book(1, 2, 2);
+        Check.names(x, "a;a;b;b;d;");
+        String first = seen(x);
+        x.room(9);
+        Check.names(x, "c;c;c;d;d;");
+        String second = seen(x);
+        x.request(0);
+        x.book(0, 1, 9);
+        x.book(1, 3, 0);
+        Check.names(x, "d;d;a;");
+        Check.due("undo() of names()", x.undo(), 4);
+        Check.due("undo() of request()", x.undo(), 3);
+        Check.row("as it was ahead of both", seen(x), second);
+        x.rule(0);
+        Check.names(x, "b;b;c;c;d;");
+        x.book(0, 2, 30);
+        x.drawn(20, 1);
+        for (int left = 5; left >= 1; left--) {
+            Check.due("undo()", x.undo(), left);
+        }
+        Check.row("as it was ahead of all", seen(x), first);
     }
 
     private static void promise36Kinds() {
@@ -267,8 +295,15 @@ public final class ShiftsTest {
         Check.due("restore(0)", x.restore(0), true);
         Check.row("as kept, once more", seen(x), first);
         x.request(1);
+        x.carry(3, 1);
+        x.book(0, 1, 2);
+        x.drawn(6, 9);
         x.image(1);
         String third = seen(x);
+        x.book(0, 0, 30);
+        x.book(1, 2, 8);
+        x.room(9);
+        x.drawn(30, 8);
         x.request(1);
         Check.due("restore(1)", x.restore(1), true);
         Check.row("the latest that was kept", seen(x), third);

@@ -75,6 +75,11 @@ public final class TextsTest {
         Check.row("what it tells", x.now(0) + " " + x.now(1) + " " + x.item(0, 0) + " " + x.item(0, 1) + " " + x.item(0, 2)
             + " " + x.item(1, 0) + " " + x.item(1, 1), "20 2 6 60 20 1 9");
 
+        Check.due("the least ROOM, the longest NAME", Check.store(x, "rule once;room 1;item abcdef 1 1 1;"), 1);
+        Check.row("what it tells", x.now(0) + " " + x.now(1) + " " + x.request(0), "1 0 1");
+        Check.due("NAMES that begin alike", Check.store(x, "item a 1 1 1;item aa 1 1 1;item aaaaaa 1 1 1;item aaaaae 1 1 1;item eaaaaa 1 1 1;"), 5);
+
+        Check.store(x, "room 20;rule heat;item ab 6 60 20;item once 01 09 1;");
         x.carry(0, 1);
         x.request(1);
         x.book(0, 0, 3);
@@ -83,9 +88,15 @@ public final class TextsTest {
         Check.due("a FAULT: PAID stays", x.now(5), 61);
         Check.due("a FAULT: the tape is empty", x.now(7), 0);
         Check.due("a FAULT: BOOKS stay", x.booked(0, 0), 0);
+        x.carry(1, 1);
+        x.carry(1, 0);
+        Check.due("best() of the LOG", x.best(), 1);
         Check.due("store anew", Check.store(x, "item ab 6 60 20;"), 1);
         Check.row("all is new", x.now(0) + " " + x.now(1) + " " + x.now(3) + " " + x.now(5) + " " + x.now(6) + " " + x.now(8) + " " + x.now(9)
             + " " + x.booked(0, 0) + " " + x.undo() + " " + x.item(0, 5), "6 1 0 0 0 0 0 -1 -1 0");
+        Check.due("no line of a BOOK that was", x.line(0, 0, 0), NONE);
+        x.request(0);
+        Check.due("best() of the new LOG", x.best(), 20);
     }
 
     private static void fault(String text, int place, int kind) {
@@ -94,11 +105,24 @@ public final class TextsTest {
         Check.due("fault() of \"" + text + "\"", x.fault(), kind);
     }
 
+    /** What end() cut off is not read, whatever bytes it was. */
+    private static void cutFault(String text, int n, int place, int kind) {
+        TwoTierStore x = new TwoTierStore();
+        Check.tape(x, text);
+        x.end(n);
+        Check.due("store of \"" + text + "\" up to " + n, x.store(), -1000 - place);
+        Check.due("fault() of \"" + text + "\" up to " + n, x.fault(), kind);
+    }
+
     private static void promise4Faults() {
         fault(BLANKS + " ", 400, 1);
         fault("#" + BLANKS, 400, 1);
         fault("room", 4, 1);
         fault("room  ", 6, 1);
+        cutFault("room            ", 4, 4, 1);
+        cutFault("room 5 ;        ", 6, 6, 1);
+        cutFault("room 20;        ", 6, 6, 1);
+        cutFault("room 20;room 5; ", 9, 8, 1);
         fault("room 5 ", 7, 1);
         fault(";", 0, 1);
         fault("room 5;;", 7, 1);
@@ -106,6 +130,11 @@ public final class TextsTest {
         fault("room x;", 5, 1);
         fault("room 5x;", 5, 1);
         fault("room5;", 0, 1);
+        fault("roomy 5;", 0, 1);
+        fault("boom 5;", 0, 1);
+        fault("roo 5;", 0, 1);
+        fault("rule ones;", 5, 1);
+        fault("rule on;", 5, 1);
         fault("room 100;", 5, 1);
         fault("room 5 [", 7, 1);
         fault("room 5#;", 6, 1);
@@ -186,6 +215,9 @@ public final class TextsTest {
         names("again 3[again 7[a;];bb;];", 27, "0000000" + "1" + "0000000" + "1" + "0000000" + "1");
         names("again 6[again 6[a;];bb;];", 45, "0000001".repeat(6).substring(0, 40));
 
+        TwoTierStore y = Check.made("item a 1 60 1;");
+        Check.names(y, "again 2 [ again 2 [ who;");
+        Check.due("behind a FAULT within two", Check.names(y, "again 2 [ again 2 [ a; ]; ];"), 4);
         TwoTierStore x = Check.made("item a 1 60 1;");
         x.drawn(38, 5);
         Check.due("names with room for two", Check.names(x, "again 5 [a;];"), 2);
