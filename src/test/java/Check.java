@@ -2,15 +2,25 @@
 final class Check {
     private static int checks = 0;
     private static int wrong = 0;
+    /** What is tested now, printed ahead of each answer that is wrong. */
+    private static String about = "";
 
     private Check() {
+    }
+
+    static void about(String what) {
+        about = what.isEmpty() ? "" : what + ": ";
+    }
+
+    static int checks() {
+        return checks;
     }
 
     static void due(String call, long got, long want) {
         checks++;
         if (got != want) {
             wrong++;
-            System.out.println(call + " answered " + got + ", due is " + want);
+            System.out.println(about + call + " answered " + got + ", due is " + want);
         }
     }
 
@@ -77,7 +87,7 @@ final class Check {
         checks++;
         if (!got.equals(want)) {
             wrong++;
-            System.out.println(call + " answered [" + got + "], due is [" + want + "]");
+            System.out.println(about + call + " answered [" + got + "], due is [" + want + "]");
         }
     }
 

@@ -1,0 +1,12 @@
+/** Issue 9: every sentence of the document that names a boundary, on both sides of it. */
+public final class BoundsTest {
+    public static void main(String[] args) {
+        BoundsOfTexts.all();
+        BoundsOfRequests.all();
+        BoundsOfBooks.all();
+        BoundsOfPlans.all();
+        BoundsOfShifts.all();
+        Sentences.finish();
+        Check.finish();
+    }
+}
