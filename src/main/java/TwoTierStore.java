@@ -781,6 +781,9 @@ public final class TwoTierStore {
         }
 
         void add(int k, int pays, Shelf behind) {
+            if (isFull()) {
+                return;
+            }
             asked[count] = k;
             paid[count] = pays;
             fast[count] = behind.fast;

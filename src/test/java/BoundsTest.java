@@ -1,6 +1,7 @@
-/** Issue 9: every sentence of the document that names a boundary, on both sides of it. */
+/** Every sentence of the document that names a boundary, on both sides of it. */
 public final class BoundsTest {
     public static void main(String[] args) {
+        BoundsOfFace.all();
         BoundsOfTexts.all();
         BoundsOfRequests.all();
         BoundsOfBooks.all();
